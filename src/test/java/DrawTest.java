@@ -177,6 +177,13 @@ public final class DrawTest {
         Due.refused(m, "west", () -> Due.drawRiver(m, 9, "sww", 1), 7, 2);
         Due.refused(m, "south", () -> Due.drawRiver(m, 55, "swws", 1), 7, 3);
         Due.refused(m, "the first of two", () -> Due.drawRiver(m, 0, "ewwwe", 1), 7, 2);
+        for (int k = 0; k < 8; k++) {
+            int along = k;
+            Due.refused(m, "north of row 0", () -> Due.drawRiver(m, along, "n", 1), 7, 0);
+            Due.refused(m, "south of row 7", () -> Due.drawRiver(m, 56 + along, "s", 1), 7, 0);
+            Due.refused(m, "west of column 0", () -> Due.drawRiver(m, 8 * along, "w", 1), 7, 0);
+            Due.refused(m, "east of column 7", () -> Due.drawRiver(m, 8 * along + 7, "e", 1), 7, 0);
+        }
         for (int k = 0; k < 4; k++) {
             Due.drawRiver(m, 0, "e", 1);
         }
@@ -270,5 +277,24 @@ public final class DrawTest {
         Due.is("scare(0)", 11, () -> m.scare(0));
         Due.is("lost", 33, () -> m.account(8));
         Due.is("scared", 2, () -> m.account(7));
+        scareOneOfFive();
+    }
+
+    private static void scareOneOfFive() {
+        for (int gone = 0; gone < 5; gone++) {
+            MapScales m = Due.map("abcda");
+            for (int dragon = 0; dragon < 5; dragon++) {
+                m.dragon(dragon, 10 + dragon);
+            }
+            int one = gone;
+            Due.is("one of five", 10 + gone, () -> m.scare(one));
+            for (int dragon = 0; dragon < 4; dragon++) {
+                int at = dragon;
+                int old = dragon < gone ? dragon : dragon + 1;
+                Due.is("cell", old, () -> m.dragonOf(at, 0));
+                Due.is("price", 10 + old, () -> m.dragonOf(at, 1));
+                Due.is("payer", old % 4, () -> m.dragonOf(at, 2));
+            }
+        }
     }
 }

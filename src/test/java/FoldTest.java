@@ -60,6 +60,8 @@ public final class FoldTest {
         Due.is("columns are alike", 1, () -> stripes.bestFold(false));
         Due.is("the middle", 4, () -> Due.map("abcddcba").bestFold(false));
         Due.is("the last one", 7, () -> Due.map("abcdabcc").bestFold(false));
+        Due.is("lies everywhere", 1, () -> Due.map("abcdabcd").bestFold(false));
+        Due.is("lies everywhere", 5, () -> Due.map("abcdbbda", "b.......").bestFold(false));
         Due.is("a row", 2, () -> Due.map("a", "b", "b", "a", "c", "d", "a", "b").bestFold(true));
     }
 
@@ -145,6 +147,11 @@ public final class FoldTest {
         Due.is("of two alike the lowest", 3, () -> m.heaviest(1));
         m.drop(3);
         Due.fails("heaviest(3)", Due.ELEMENT, () -> m.heaviest(3));
+        m.drop(0);
+        m.drop(0);
+        Due.drawRiver(m, 40, "e", 1);
+        Due.is("the first one", 0, () -> m.heaviest(0));
+        Due.is("the second one", 1, () -> m.heaviest(1));
     }
 
     // Promise 30

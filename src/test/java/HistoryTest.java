@@ -16,6 +16,8 @@ public final class HistoryTest {
     private static void everyChange() {
         MapScales m = Due.map("abbb....", "c");
         Due.drawRiver(m, 0, "es", 1);
+        Due.drawRiver(m, 20, "nws", 2);
+        Due.drawRiver(m, 63, "nwnwnwnwnwnw", 3);
         m.dragon(0, 5);
         m.dragon(1, 6);
         m.dragon(2, 7);
