@@ -168,8 +168,9 @@ public final class DrawTest {
         Due.is("the input is empty", 0, () -> m.account(9));
         Due.failsIdly(m, "river(0, -1)", Due.ARGUMENT, () -> Due.drawRiver(m, 0, "e", -1));
         for (String steps : new String[] {"", "x", "eex", "e e", "eewweewweewwe", "N", "e;", "e=1"}) {
-            Due.failsIdly(m, "steps " + steps, Due.STATE, () -> Due.drawRiver(m, 0, steps, 1));
-            Due.is("the input is empty", 0, () -> m.account(9));
+            MapScales bare = new MapScales();
+            Due.failsIdly(bare, "steps " + steps, Due.STATE, () -> Due.drawRiver(bare, 0, steps, 1));
+            Due.is("the input is empty", 0, () -> bare.account(9));
         }
         Due.refused(m, "north", () -> Due.drawRiver(m, 7, "n", 1), 7, 0);
         Due.is("the input is empty", 0, () -> m.account(9));
@@ -179,10 +180,11 @@ public final class DrawTest {
         Due.refused(m, "the first of two", () -> Due.drawRiver(m, 0, "ewwwe", 1), 7, 2);
         for (int k = 0; k < 8; k++) {
             int along = k;
-            Due.refused(m, "north of row 0", () -> Due.drawRiver(m, along, "n", 1), 7, 0);
-            Due.refused(m, "south of row 7", () -> Due.drawRiver(m, 56 + along, "s", 1), 7, 0);
-            Due.refused(m, "west of column 0", () -> Due.drawRiver(m, 8 * along, "w", 1), 7, 0);
-            Due.refused(m, "east of column 7", () -> Due.drawRiver(m, 8 * along + 7, "e", 1), 7, 0);
+            MapScales bare = new MapScales();
+            Due.refused(bare, "north of row 0", () -> Due.drawRiver(bare, along, "n", 1), 7, 0);
+            Due.refused(bare, "south of row 7", () -> Due.drawRiver(bare, 56 + along, "s", 1), 7, 0);
+            Due.refused(bare, "west of column 0", () -> Due.drawRiver(bare, 8 * along, "w", 1), 7, 0);
+            Due.refused(bare, "east of column 7", () -> Due.drawRiver(bare, 8 * along + 7, "e", 1), 7, 0);
         }
         for (int k = 0; k < 4; k++) {
             Due.drawRiver(m, 0, "e", 1);

@@ -1,7 +1,25 @@
+import java.util.Arrays;
+
 /** What the tests share: calls with the answers that are due, and the count of those that differ. */
 final class Due {
     interface Call {
         Object go();
+    }
+
+    interface NumberCall {
+        Object go(int number);
+    }
+
+    interface Maker {
+        MapScales make();
+    }
+
+    interface Change {
+        Object go(MapScales m);
+    }
+
+    interface MapCall {
+        Object go(MapScales m, int number);
     }
 
     static final Class<?> INDEX = IndexOutOfBoundsException.class;
@@ -37,6 +55,41 @@ final class Due {
         String before = picture(m);
         fails(call, want, asked);
         compare(call + " leaves the state", before, picture(m));
+    }
+
+    /** The call throws an exception of this very class, and nothing at all that can be asked differs then. */
+    static void keeps(MapScales m, String call, Class<?> want, Call asked) {
+        String before = whole(m);
+        fails(call, want, asked);
+        compare(call + " leaves the state", before, whole(m));
+    }
+
+    /** The call throws at each of the numbers, and at those farthest away, and leaves the state as it is. */
+    static void outside(String call, Class<?> want, Maker maker, MapCall asked, int... numbers) {
+        int[] all = Arrays.copyOf(numbers, numbers.length + 2);
+        all[numbers.length] = Integer.MIN_VALUE;
+        all[numbers.length + 1] = Integer.MAX_VALUE;
+        for (int number : all) {
+            // A new object each time: nothing is promised about one after its 512th call.
+            MapScales m = maker.make();
+            keeps(m, call + " " + number, want, () -> asked.go(m, number));
+        }
+    }
+
+    /** The call answers the same for all numbers from one to another. */
+    static void alike(String call, Object want, int first, int last, NumberCall asked) {
+        for (int number = first; number <= last; number++) {
+            int at = number;
+            is(call + " " + at, want, () -> asked.go(at));
+        }
+    }
+
+    /** The call answers these, one after the other, for the numbers from 0 on. */
+    static void answers(String call, NumberCall asked, Object... want) {
+        for (int number = 0; number < want.length; number++) {
+            int at = number;
+            is(call + " " + at, want[at], () -> asked.go(at));
+        }
     }
 
     /** The call is refused, leaves everything as it is, and keeps reasons with their details. */
@@ -133,8 +186,51 @@ final class Due {
         return text.toString();
     }
 
+    /** All that can be asked. */
+    static String whole(MapScales m) {
+        StringBuilder text = new StringBuilder(drawn(m));
+        text.append(m.account(9)).append(' ').append(m.account(10)).append(' ');
+        for (int depth = 0; depth < 3; depth++) {
+            int at = depth;
+            text.append(orNone(() -> m.reason(at, false))).append(' ');
+            text.append(orNone(() -> m.reason(at, true))).append(' ');
+        }
+        text.append(orNone(() -> m.errorPosition())).append(' ');
+        Object sign = orNone(() -> m.character(0));
+        for (int index = 1; !sign.equals("none"); index++) {
+            int at = index;
+            text.append(sign);
+            sign = orNone(() -> m.character(at));
+        }
+        return text.toString();
+    }
+
+    private static Object orNone(Call asked) {
+        try {
+            return asked.go();
+        } catch (java.util.NoSuchElementException e) {
+            return "none";
+        }
+    }
+
+    /** What a change can hardly leave as it is. Fewer calls than drawn: an object is used for at most 512. */
     private static String picture(MapScales m) {
-        return drawn(m) + m.account(10);
+        StringBuilder text = new StringBuilder();
+        for (int realm = 0; realm < 4; realm++) {
+            text.append(m.realmOf(realm, 0)).append(' ').append(m.realmOf(realm, 1)).append(' ');
+        }
+        for (int account = 0; account < 9; account++) {
+            text.append(m.account(account)).append(' ');
+        }
+        return text.append(m.account(10)).toString();
+    }
+
+    static int differing() {
+        return differing;
+    }
+
+    static int counted() {
+        return counted;
     }
 
     static void end(String name) {

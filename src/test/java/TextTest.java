@@ -56,57 +56,57 @@ public final class TextTest {
 
     // Promises 38 and 39
     private static void malformed() {
-        MapScales m = Due.map("ab");
-        errorIs(m, "", 0);
-        errorIs(m, ";", 0);
-        errorIs(m, "P0a", 0);
-        errorIs(m, " p0a", 0);
-        errorIs(m, "p", 1);
-        errorIs(m, "pa", 1);
-        errorIs(m, "p1", 2);
-        errorIs(m, "p12", 3);
-        errorIs(m, "p123", 3);
-        errorIs(m, "p1e", 2);
-        errorIs(m, "p1A", 2);
-        errorIs(m, "p1`", 2);
-        errorIs(m, "p1a ", 3);
-        errorIs(m, "p1aa", 3);
-        errorIs(m, "p1a;", 4);
-        errorIs(m, "p1a;;", 4);
-        errorIs(m, "p1a;q", 4);
-        errorIs(m, "s1.", 2);
-        errorIs(m, "s63", 3);
-        errorIs(m, "s1e", 2);
-        errorIs(m, "s1d.", 3);
-        errorIs(m, "m", 1);
-        errorIs(m, "ma", 1);
-        errorIs(m, "m10", 2);
-        errorIs(m, "k", 1);
-        errorIs(m, "k00", 2);
-        errorIs(m, "f:", 1);
-        errorIs(m, "f/", 1);
-        errorIs(m, "f12", 2);
-        errorIs(m, "r:", 1);
-        errorIs(m, "r0n", 2);
-        errorIs(m, "r0:=", 3);
-        errorIs(m, "r0:x", 3);
-        errorIs(m, "r0:nesw", 7);
-        errorIs(m, "r0:nesw;", 7);
-        errorIs(m, "r0:nnnnnnnnnnnnn", 15);
-        errorIs(m, "r0:nnnnnnnnnnnn", 15);
-        errorIs(m, "r0:nnnnnnnnnnnn=", 16);
-        errorIs(m, "r0:n=;", 5);
-        errorIs(m, "r0:n=100", 7);
-        errorIs(m, "d0:", 2);
-        errorIs(m, "d0/", 3);
-        errorIs(m, "d0/x", 3);
-        errorIs(m, "d0/123", 5);
-        errorIs(m, "d/5", 1);
-        errorIs(m, "p64a;m0;x", 8);
-        errorIs(m, "p0a;p0a;d", 9);
+        errorIs("", 0);
+        errorIs(";", 0);
+        errorIs("P0a", 0);
+        errorIs(" p0a", 0);
+        errorIs("p", 1);
+        errorIs("pa", 1);
+        errorIs("p1", 2);
+        errorIs("p12", 3);
+        errorIs("p123", 3);
+        errorIs("p1e", 2);
+        errorIs("p1A", 2);
+        errorIs("p1`", 2);
+        errorIs("p1a ", 3);
+        errorIs("p1aa", 3);
+        errorIs("p1a;", 4);
+        errorIs("p1a;;", 4);
+        errorIs("p1a;q", 4);
+        errorIs("s1.", 2);
+        errorIs("s63", 3);
+        errorIs("s1e", 2);
+        errorIs("s1d.", 3);
+        errorIs("m", 1);
+        errorIs("ma", 1);
+        errorIs("m10", 2);
+        errorIs("k", 1);
+        errorIs("k00", 2);
+        errorIs("f:", 1);
+        errorIs("f/", 1);
+        errorIs("f12", 2);
+        errorIs("r:", 1);
+        errorIs("r0n", 2);
+        errorIs("r0:=", 3);
+        errorIs("r0:x", 3);
+        errorIs("r0:nesw", 7);
+        errorIs("r0:nesw;", 7);
+        errorIs("r0:nnnnnnnnnnnnn", 15);
+        errorIs("r0:nnnnnnnnnnnn", 15);
+        errorIs("r0:nnnnnnnnnnnn=", 16);
+        errorIs("r0:n=;", 5);
+        errorIs("r0:n=100", 7);
+        errorIs("d0:", 2);
+        errorIs("d0/", 3);
+        errorIs("d0/x", 3);
+        errorIs("d0/123", 5);
+        errorIs("d/5", 1);
+        errorIs("p64a;m0;x", 8);
+        errorIs("p0a;p0a;d", 9);
     }
 
-    private static void errorIs(MapScales m, String text, int want) {
+    private static void errorIs(String text, int want) {
+        MapScales m = Due.map("ab");
         Due.failsIdly(m, text, Due.ARGUMENT, () -> Due.readText(m, text));
         Due.is("error position of " + text, want, () -> m.errorPosition());
         Due.is("the input is empty", 0, () -> m.account(9));
@@ -114,10 +114,10 @@ public final class TextTest {
     }
 
     private static void notThere() {
-        MapScales m = Due.map("ab");
         String[] texts = {"p64a", "p99.", "s64a", "r64:e=1", "r99:n=1", "d64/1", "d0/0", "d0/51", "d0/99", "d64/0",
             "m0", "k0", "k9", "f0", "f9", "p9a;r0:e=1;k1", "d0/5;f1", "d0/5;f0;f0", "m2;m0"};
         for (String text : texts) {
+            MapScales m = Due.map("ab");
             Due.failsIdly(m, text, Due.STATE, () -> Due.readText(m, text));
             Due.is("the input is empty", 0, () -> m.account(9));
             Due.reasonsAre(m, text);
@@ -126,22 +126,21 @@ public final class TextTest {
     }
 
     private static void refused() {
-        MapScales m = Due.map("abb", "..c");
-        refusedIs(m, "p0a", 10, 0, 1, 0);
-        refusedIs(m, "p9.", 10, 0, 1, -1);
-        refusedIs(m, "p9a;p9a", 10, 1, 1, 0);
-        refusedIs(m, "s1b", 10, 0, 1, 1);
-        refusedIs(m, "s1a;s9a", 10, 1, 2, 9, 3, 9);
-        refusedIs(m, "s2a", 10, 0, 2, 2, 4, 0);
-        refusedIs(m, "s0b", 10, 0, 2, 0, 5, 0);
-        refusedIs(m, "m2;m3;m3", 10, 2, 1, 3);
-        refusedIs(m, "m1", 10, 0, 1, 1);
-        refusedIs(m, "r0:es=1;r0:esww=1", 10, 1, 7, 3);
-        refusedIs(m, "r0:e=1;r0:e=1;r0:e=1;r0:e=1;r0:w=1", 10, 4, 6, 4);
-        refusedIs(m, "d9/5", 10, 0, 3, 9);
-        refusedIs(m, "d0/5;d1/6;d1/50", 10, 2, 8, 1);
-        refusedIs(m, "d1/50;d2/49;p3b;d3/2", 10, 3, 9, 1);
-        refusedIs(m, "p3a;p4a;d0/1;d1/1;d2/1;d3/1;d10/1;d4/50", 10, 7, 6, 5);
+        refusedIs(Due.map("abb", "..c"), "p0a", 10, 0, 1, 0);
+        refusedIs(Due.map("abb", "..c"), "p9.", 10, 0, 1, -1);
+        refusedIs(Due.map("abb", "..c"), "p9a;p9a", 10, 1, 1, 0);
+        refusedIs(Due.map("abb", "..c"), "s1b", 10, 0, 1, 1);
+        refusedIs(Due.map("abb", "..c"), "s1a;s9a", 10, 1, 2, 9, 3, 9);
+        refusedIs(Due.map("abb", "..c"), "s2a", 10, 0, 2, 2, 4, 0);
+        refusedIs(Due.map("abb", "..c"), "s0b", 10, 0, 2, 0, 5, 0);
+        refusedIs(Due.map("abb", "..c"), "m2;m3;m3", 10, 2, 1, 3);
+        refusedIs(Due.map("abb", "..c"), "m1", 10, 0, 1, 1);
+        refusedIs(Due.map("abb", "..c"), "r0:es=1;r0:esww=1", 10, 1, 7, 3);
+        refusedIs(Due.map("abb", "..c"), "r0:e=1;r0:e=1;r0:e=1;r0:e=1;r0:w=1", 10, 4, 6, 4);
+        refusedIs(Due.map("abb", "..c"), "d9/5", 10, 0, 3, 9);
+        refusedIs(Due.map("abb", "..c"), "d0/5;d1/6;d1/50", 10, 2, 8, 1);
+        refusedIs(Due.map("abb", "..c"), "d1/50;d2/49;p3b;d3/2", 10, 3, 9, 1);
+        refusedIs(Due.map("abb", "..c"), "p3a;p4a;d0/1;d1/1;d2/1;d3/1;d10/1;d4/50", 10, 7, 6, 5);
     }
 
     private static void refusedIs(MapScales m, String text, int... reasons) {
