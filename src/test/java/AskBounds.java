@@ -180,8 +180,8 @@ final class AskBounds {
         Due.is("in one realm", 0, () -> m.riverOf(0, 5));
     }
 
-    @Holds(promise = 11, says = "A step crosses a border if the cells ahead of it and behind it belong to unlike realms, or one of "
-            + "them to none and the other one to a realm.")
+    @Holds(promise = 11, says = "A step crosses a border if the cells ahead of it and behind it belong to unlike realms, or one "
+            + "of them to none and the other one to a realm.")
     static void riverOfTellsCrossingsToNoneAndFromIt() {
         MapScales m = Due.map(".a.");
         Due.drawRiver(m, 0, "e", 1);
@@ -385,6 +385,14 @@ final class AskBounds {
         Due.alike("border with itself of", 0, 0, 3, realm -> m.border(realm, realm));
     }
 
+    @Holds(promise = 16, says = "`other`: the other one, possibly the same")
+    static void borderTakesOneRealmTwice() {
+        Due.is("the lowest, without cells", 0, () -> new MapScales().border(0, 0));
+        Due.is("the highest, with all cells", 0, () -> Due.map(ALL_OF_D).border(3, 3));
+        Due.is("in two parts beside another one", 0, () -> Due.map("dcd").border(3, 3));
+        Due.is("the other one beside it", 2, () -> Due.map("dcd").border(3, 2));
+    }
+
     @Holds(promise = 16, says = "Throws `IndexOutOfBoundsException` if there is no such realm, for either")
     static void borderKnowsNoRealmOutside() {
         Due.outside("border(one, 0)", Due.INDEX, () -> Due.map("ab"), (m, one) -> m.border(one, 0), -1, 4);
@@ -478,7 +486,8 @@ final class AskBounds {
         parts(isAgain, 1, Due.map("c.c", "ccc", "c.c"), 2);
         String all = "cccccccc";
         parts(isAgain, 1, Due.map(all, ".......c", all, "c", all, ".......c", all, "c"), 2);
-        parts(isAgain, 1, Due.map("c.c.c.c.", "c.c.c.c.", "ccc.ccc.", "..c...c.", "..ccccc.", "..c...c.", "ccc.ccc.", "c.c.c.c."), 2);
+        parts(isAgain, 1, Due.map("c.c.c.c.", "c.c.c.c.", "ccc.ccc.", "..c...c.",
+                "..ccccc.", "..c...c.", "ccc.ccc.", "c.c.c.c."), 2);
     }
 
     private static void partsKnowNoWayRound(boolean isAgain) {
@@ -538,8 +547,8 @@ final class AskBounds {
         Due.is("the last cell", true, () -> Due.map("b", "", "", "", "", "", "", "......ab").couldShave(63, 0));
     }
 
-    @Holds(promise = 21, says = "A border can be shaved for a realm at a cell that belongs to another realm, has a cell of the realm "
-            + "beside it, and is not the only cell of its own one.")
+    @Holds(promise = 21, says = "A border can be shaved for a realm at a cell that belongs to another realm, has a cell of the "
+            + "realm beside it, and is not the only cell of its own one.")
     static void couldShaveLooksToFourSides() {
         for (int beside : new int[] {19, 28, 35, 26, 18, 20, 34, 36, 25, 29, 11, 43}) {
             MapScales m = Due.map("b");

@@ -84,7 +84,8 @@ final class DrawBounds {
         }
     }
 
-    @Holds(promise = 1, says = "It has 8 rows of 8 cells, numbered row by row from 0; the cell is 8 times its row, and its column.")
+    @Holds(promise = 1, says = "It has 8 rows of 8 cells, numbered row by row from 0; the cell is 8 times its row, and its "
+            + "column.")
     static void mapHasEightRowsOfEightCells() {
         MapScales m = Due.map("a......b", "........", "........", "..c.....", "........", "........", "........", "d......a");
         Due.is("row 0, column 0", 0, () -> m.realmAt(0));
@@ -471,7 +472,8 @@ final class DrawBounds {
         Due.answers("from the last cell", place -> m.riverAt(1, place), 63, 55, 54);
     }
 
-    @Holds(promise = 5, says = "\"n\" for the row ahead, \"e\" for the column behind, \"s\" for the row behind, \"w\" for the column ahead.")
+    @Holds(promise = 5, says = "\"n\" for the row ahead, \"e\" for the column behind, \"s\" for the row behind, "
+            + "\"w\" for the column ahead.")
     static void riverGoesToFourSides() {
         MapScales m = new MapScales();
         int[] beside = {19, 28, 35, 26};

@@ -63,8 +63,8 @@ final class FoldBounds {
         liesAreAsDue(false);
     }
 
-    @Holds(promise = 23, says = "the rows or columns on both sides of the crease lie upon each other, the next ones upon the next "
-            + "ones, as far as both are there.")
+    @Holds(promise = 23, says = "the rows or columns on both sides of the crease lie upon each other, the next ones upon the "
+            + "next ones, as far as both are there.")
     static void liesReachAsFarAsBothAreThere() {
         foldsAreAsDue(false);
     }
@@ -106,8 +106,8 @@ final class FoldBounds {
         liesAreAsDue(true);
     }
 
-    @Holds(promise = 24, says = "the rows or columns on both sides of the crease lie upon each other, the next ones upon the next "
-            + "ones, as far as both are there.")
+    @Holds(promise = 24, says = "the rows or columns on both sides of the crease lie upon each other, the next ones upon the "
+            + "next ones, as far as both are there.")
     static void liesAgainReachAsFarAsBothAreThere() {
         foldsAreAsDue(true);
     }

@@ -79,8 +79,8 @@ final class HistoryBounds {
         Due.keeps(refused, "it was refused", Due.ELEMENT, () -> refused.undo());
     }
 
-    @Holds(promise = 41, says = "A change is a call of paint, shave, scale, river, drop, dragon, scare or read that returns without an "
-            + "exception.")
+    @Holds(promise = 41, says = "A change is a call of paint, shave, scale, river, drop, dragon, scare or read that returns without "
+            + "an exception.")
     static void callsThatThrowAreNoChanges() {
         MapScales m = furnished();
         m.undo();
@@ -161,8 +161,8 @@ final class HistoryBounds {
         Due.fails("none", Due.ELEMENT, () -> m.undo());
     }
 
-    @Holds(promise = 41, says = "The object remembers everything except the reason, the input, the error position, the line and what was "
-            + "saved, as it is just before a change")
+    @Holds(promise = 41, says = "The object remembers everything except the reason, the input, the error position, the line and "
+            + "what was saved, as it is just before a change")
     static void undoLeavesWhatIsNotRemembered() {
         MapScales m = Due.map("a");
         m.save();
@@ -360,8 +360,8 @@ final class HistoryBounds {
         Due.is("without any", 0, () -> none.account(10));
     }
 
-    @Holds(promise = 43, says = "The object remembers everything except the reason, the input, the error position, the line and what was "
-            + "saved")
+    @Holds(promise = 43, says = "The object remembers everything except the reason, the input, the error position, the line and "
+            + "what was saved")
     static void restoreLeavesWhatIsNotRemembered() {
         MapScales m = Due.map("a");
         m.save();
@@ -414,7 +414,8 @@ final class HistoryBounds {
         Due.is("all is as before", before, () -> Due.whole(m));
     }
 
-    @Holds(promise = 2, says = "A method that throws an exception leaves the state unchanged, unless its documentation says otherwise.")
+    @Holds(promise = 2, says = "A method that throws an exception leaves the state unchanged, unless its documentation says "
+            + "otherwise.")
     static void exceptionsLeaveTheState() {
         MapScales m = furnished();
         Due.fails("three deep", Due.REFUSED, () -> Due.readText(m, "m5;s8a"));

@@ -234,7 +234,8 @@ final class LineBounds {
 
     // ---- promise 35: ownedShare
 
-    @Holds(promise = 35, says = "Returns the share of the cells of the map that belong to realms, both numbers converted to float.")
+    @Holds(promise = 35, says = "Returns the share of the cells of the map that belong to realms, both numbers converted to "
+            + "float.")
     static void ownedShareOfNoneOneAndAll() {
         MapScales m = new MapScales();
         Due.is("none", 0.0f, () -> m.ownedShare());
@@ -300,7 +301,8 @@ final class LineBounds {
         Due.is("so far", 2, () -> m.account(5));
     }
 
-    @Holds(promise = 36, says = "6 for the dragons refunded so far, 7 for the dragons scared away so far, 8 for the coins lost by these")
+    @Holds(promise = 36, says = "6 for the dragons refunded so far, 7 for the dragons scared away so far, 8 for the coins lost by "
+            + "these")
     static void accountsOfDragonsGone() {
         MapScales m = Due.map("abbb");
         m.dragon(0, 50);

@@ -10,7 +10,7 @@ final class Sentences {
     /** Sentences that name no boundary case: what they say is said with its edges by others of the same promise. */
     private static final Set<String> PLAIN = Set.of(
             "`cell`: the cell", "`realm`: the realm", "`river`: the river", "`dragon`: the dragon", "`y`: the row",
-            "`one`: the one realm", "`other`: the other one, possibly the same", "`isDetail`: whether the detail is told",
+            "`one`: the one realm", "`isDetail`: whether the detail is told",
             "Returns how many.", "Returns the account.", "Returns the cell.", "Returns the character.",
             "Returns the crease.", "Returns the error position.", "Returns the mean.", "Returns the number.",
             "Returns the realm.", "Returns the reason or the detail.", "Returns the river.", "Returns the scale.",
@@ -51,8 +51,8 @@ final class Sentences {
     }
 
     private static boolean isHeading(String sentence) {
-        return sentence.isEmpty() || sentence.matches("(\\w+|The map|More precisely)\\.") || sentence.startsWith("Ahead of the calls ")
-                || sentence.startsWith(SUMMARY);
+        return sentence.isEmpty() || sentence.matches("(\\w+|The map|More precisely)\\.")
+                || sentence.startsWith("Ahead of the calls ") || sentence.startsWith(SUMMARY);
     }
 
     int promises() {

@@ -274,8 +274,8 @@ final class TextBounds {
         works(furnished(), "m9;m1;d0/50;d1/1", 4);
     }
 
-    @Holds(promise = 38, says = "Throws `IllegalStateException` if a command tells a cell, a river or a dragon that there is not, "
-            + "or a number out of range")
+    @Holds(promise = 38, says = "Throws `IllegalStateException` if a command tells a cell, a river or a dragon that there is "
+            + "not, or a number out of range")
     static void readMissesSomethingAheadOfRefusing() {
         missesSomething("d64/0");
         missesSomething("d63/0");
@@ -346,7 +346,7 @@ final class TextBounds {
     @Holds(promise = 39, says = "Returns the error position that was kept last; it stays until the next one is kept.")
     static void errorPositionStays() {
         MapScales m = new MapScales();
-        Due.fails("malformed", Due.ARGUMENT, () -> Due.readText(m, "p1?"));
+        Due.fails("malformed", Due.ARGUMENT, () -> Due.readText(m, "m2;m?"));
         m.save();
         works(m, "p1a", 1);
         Due.fails("not there", Due.STATE, () -> Due.readText(m, "k0"));
@@ -354,8 +354,8 @@ final class TextBounds {
         Due.fails("no steps", Due.STATE, () -> m.river(0, 1));
         m.undo();
         m.restore();
-        Due.is("it stays", 2, () -> m.errorPosition());
-        Due.is("asking leaves it", 2, () -> m.errorPosition());
+        Due.is("it stays", 4, () -> m.errorPosition());
+        Due.is("asking leaves it", 4, () -> m.errorPosition());
         Due.fails("malformed", Due.ARGUMENT, () -> m.read());
         Due.is("the next one", 0, () -> m.errorPosition());
     }
@@ -500,8 +500,8 @@ final class TextBounds {
         Due.reasonsAre(m, "one deep", reason);
     }
 
-    @Holds(promise = 40, says = "Something is refused for the first of the reasons that apply, in the order in which its method names "
-            + "them, with a detail, and perhaps with a cause, which is a reason with a detail again")
+    @Holds(promise = 40, says = "Something is refused for the first of the reasons that apply, in the order in which its method "
+            + "names them, with a detail, and perhaps with a cause, which is a reason with a detail again")
     static void reasonIsTheFirstThatApplies() {
         MapScales m = Due.map("a");
         Due.fails("1 ahead of 2 with 4", Due.REFUSED, () -> m.shave(0, 0));
