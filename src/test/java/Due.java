@@ -196,8 +196,9 @@ final class Due {
             text.append(orNone(() -> m.reason(at, true))).append(' ');
         }
         text.append(orNone(() -> m.errorPosition())).append(' ');
+        // No line is longer than 19; the bound lets a program whose line never ends fail, and not hang.
         Object sign = orNone(() -> m.character(0));
-        for (int index = 1; !sign.equals("none"); index++) {
+        for (int index = 1; index <= 64 && !sign.equals("none"); index++) {
             int at = index;
             text.append(sign);
             sign = orNone(() -> m.character(at));
