@@ -60,8 +60,9 @@ public final class MapScales {
     private boolean isSaved;
     private final History history = new History();
     private final Command order = new Command();
-    private final Strip input = new Strip();
-    private final Reader reader = new Reader(input);
+    private final Reader reader = new Reader();
+    // The reader makes the input itself, so that this constructor hands out nothing of its object.
+    private final Strip input = reader.text;
     private final Strip line = new Strip();
     private final Refusal kept = new Refusal();
     private final Parts partsFinder = new Parts();
@@ -1099,12 +1100,8 @@ public final class MapScales {
 
     /** Takes a text apart. Where it can't go on, it stands at the error position. */
     private static final class Reader {
-        final Strip text;
+        final Strip text = new Strip();
         int place;
-
-        Reader(Strip newText) {
-            text = newText;
-        }
 
         void rewind() {
             place = 0;

@@ -2,7 +2,6 @@ import java.io.IOException;
 import java.lang.reflect.InvocationTargetException;
 import java.lang.reflect.Method;
 import java.nio.file.Files;
-import java.nio.file.Path;
 import java.util.ArrayList;
 import java.util.Comparator;
 import java.util.List;
@@ -16,7 +15,7 @@ public final class BoundaryTest {
     }
 
     public static void main(String[] args) throws IOException, IllegalAccessException {
-        Sentences sentences = new Sentences(Files.readString(Path.of(args[1])));
+        Sentences sentences = new Sentences(Files.readString(Due.DOCUMENT));
         Due.compare("promises of the document", 43, sentences.promises());
         List<Method> tests = tests();
         for (Method test : tests) {

@@ -1,3 +1,4 @@
+import java.nio.file.Path;
 import java.util.Arrays;
 
 /** What the tests share: calls with the answers that are due, and the count of those that differ. */
@@ -21,6 +22,10 @@ final class Due {
     interface MapCall {
         Object go(MapScales m, int number);
     }
+
+    // Tests are run in the directory of the project.
+    static final Path PROGRAM = Path.of("src/main/java/MapScales.java");
+    static final Path DOCUMENT = Path.of("../shared/DOC.md");
 
     static final Class<?> INDEX = IndexOutOfBoundsException.class;
     static final Class<?> ARGUMENT = IllegalArgumentException.class;

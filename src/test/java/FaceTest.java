@@ -4,7 +4,6 @@ import java.lang.reflect.Field;
 import java.lang.reflect.Method;
 import java.lang.reflect.Modifier;
 import java.nio.file.Files;
-import java.nio.file.Path;
 import java.util.ArrayList;
 import java.util.List;
 import java.util.Set;
@@ -18,10 +17,11 @@ public final class FaceTest {
     }
 
     public static void main(String[] args) throws IOException {
-        face(Files.readString(Path.of(args[1])));
+        face(Files.readString(Due.DOCUMENT));
         names();
         fields();
-        words(Files.readString(Path.of(args[0])));
+        constructors();
+        words(Files.readString(Due.PROGRAM));
         Due.end("FaceTest");
     }
 
@@ -96,6 +96,15 @@ public final class FaceTest {
             int fields = count;
             Due.is("fields of " + type, true, () -> fields <= 20);
             Due.is("static " + type, true, () -> type == MapScales.class || Modifier.isStatic(type.getModifiers()));
+        }
+    }
+
+    // Rule 12: what a constructor takes, the one that calls it hands out of its own object.
+    private static void constructors() {
+        for (Class<?> type : types()) {
+            for (Constructor<?> constructor : type.getDeclaredConstructors()) {
+                Due.is("what is handed to " + constructor, 0, () -> constructor.getParameterCount());
+            }
         }
     }
 
